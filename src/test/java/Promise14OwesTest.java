@@ -1,0 +1,38 @@
+/** Promise 14: owes. */
+public final class Promise14OwesTest {
+    public static void main(String[] args) {
+        Bandwidthclub club = new Bandwidthclub();
+        club.join(2, 0);
+        club.join(4, 0);
+        club.join(3, 0);
+        Clubs.withFilms(club, 7, 9);
+        Check.throwsIndex("owes(-1, 0)", () -> club.owes(-1, 0));
+        Check.throwsIndex("owes(3, 0)", () -> club.owes(3, 0));
+        Check.throwsIndex("owes(0, -1)", () -> club.owes(0, -1));
+        Check.throwsIndex("owes(0, 3)", () -> club.owes(0, 3));
+        Check.is("owes(0, 0)", club.owes(0, 0), 0);
+        club.fetch(0, 0);
+        owe(club, 0, 1, 4);
+        owe(club, 0, 2, 1);
+        club.pass(1);
+        club.fetch(2, 0);
+        owe(club, 2, 1, 4);
+        owe(club, 0, 2, 1);
+        club.pass(1);
+        club.fetch(2, 1);
+        owe(club, 2, 1, 8);
+        owe(club, 2, 0, 1);
+        Check.is("owes(2, 2)", club.owes(2, 2), 0);
+        club.leave(2);
+        owe(club, 2, 1, 0);
+        owe(club, 2, 0, 0);
+        owe(club, 0, 1, 4);
+        Check.end();
+    }
+
+    /** One of two owes the other one, or none does. */
+    private static void owe(Bandwidthclub club, int member, int other, int units) {
+        Check.is("owes(" + member + ", " + other + ")", club.owes(member, other), units);
+        Check.is("owes(" + other + ", " + member + ")", club.owes(other, member), 0);
+    }
+}

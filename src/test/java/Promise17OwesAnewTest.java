@@ -1,0 +1,39 @@
+/** Promise 17: owesAnew. */
+public final class Promise17OwesAnewTest {
+    public static void main(String[] args) {
+        Bandwidthclub club = new Bandwidthclub();
+        club.join(2, 20);
+        club.join(4, 0);
+        club.join(3, 0);
+        Clubs.withFilms(club, 7, 9, 1);
+        Check.throwsIndex("owesAnew(-1, 0)", () -> club.owesAnew(-1, 0));
+        Check.throwsIndex("owesAnew(3, 0)", () -> club.owesAnew(3, 0));
+        Check.throwsIndex("owesAnew(0, -1)", () -> club.owesAnew(0, -1));
+        Check.throwsIndex("owesAnew(0, 3)", () -> club.owesAnew(0, 3));
+        Check.is("owesAnew(1, 1)", club.owesAnew(1, 1), 0);
+        club.fetch(0, 0);
+        owe(club, 0, 1, 4);
+        owe(club, 0, 2, 1);
+        club.fetch(0, 0);
+        owe(club, 0, 1, 4);
+        club.pass(1);
+        club.fetch(2, 1);
+        owe(club, 2, 1, 4);
+        owe(club, 2, 0, 1);
+        club.fetch(0, 0);
+        owe(club, 2, 0, 1);
+        club.leave(1);
+        owe(club, 0, 1, 0);
+        owe(club, 2, 1, 0);
+        owe(club, 2, 0, 1);
+        club.leave(2);
+        owe(club, 2, 0, 0);
+        Check.end();
+    }
+
+    /** One of two owes the other one, or none does. */
+    private static void owe(Bandwidthclub club, int member, int other, int units) {
+        Check.is("owesAnew(" + member + ", " + other + ")", club.owesAnew(member, other), units);
+        Check.is("owesAnew(" + other + ", " + member + ")", club.owesAnew(other, member), 0);
+    }
+}
