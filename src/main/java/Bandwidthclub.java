@@ -94,7 +94,6 @@ public final class Bandwidthclub {
 
     /** A member fetches a film; returns what it pays. */
     public int fetch(int member, int film) throws IndexOutOfBoundsException, IllegalStateException {
-        memberAt(member);
         Film wanted = filmAt(film);
         Member fetcher = memberInClub(member);
         if (fetches >= MOST_FETCHES) {
@@ -148,7 +147,6 @@ public final class Bandwidthclub {
     /** A member votes for a proposal or against it; returns how the proposal is then. */
     public int vote(int member, int proposal, boolean isFor)
             throws IndexOutOfBoundsException, IllegalStateException {
-        memberAt(member);
         Proposal voted = proposalAt(proposal);
         memberInClub(member);
         if (voted.state != OPEN) {

@@ -57,9 +57,17 @@ final class Check {
             run.run();
         } catch (RuntimeException e) {
             thrown = e.getClass();
+            if (!isThrownByTheClub(e)) {
+                fail(call + ": the machine or its library threw " + e);
+            }
         }
         if (thrown != due) {
             fail(call + " threw " + thrown + ", due is " + due);
         }
+    }
+
+    static boolean isThrownByTheClub(RuntimeException e) {
+        StackTraceElement[] stack = e.getStackTrace();
+        return stack.length > 0 && stack[0].getClassName().startsWith("Bandwidthclub");
     }
 }

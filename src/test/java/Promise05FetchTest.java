@@ -9,6 +9,7 @@ public final class Promise05FetchTest {
         debtsMeetEachOther();
         pricesOfTheDay();
         intoTheCache();
+        worthAheadOfNumber();
         tooLargeForTheCache();
         threeHundred();
         Check.end();
@@ -27,6 +28,8 @@ public final class Promise05FetchTest {
         Check.throwsState("fetch(0, 0) of 9 by 8", () -> club.fetch(0, 0));
         club.join(1, 0);
         Check.is("fetch(0, 0) of 9 by 9", club.fetch(0, 0), 18);
+        Check.is("the last unit of all", club.member(3, 1), 0);
+        Check.is("owes(0, 3)", club.owes(0, 3), 1);
         Check.throwsState("fetch(0, 0) by nothing", () -> club.fetch(0, 0));
     }
 
@@ -156,6 +159,24 @@ public final class Promise05FetchTest {
         Check.is("what is worth as much stays", Seen.told(club), "0,4,6;");
         club.fetch(0, 1);
         Check.is("no more is taken out than must be", Seen.told(club), "0,3,6;");
+    }
+
+    private static void worthAheadOfNumber() {
+        Bandwidthclub club = Clubs.withFilms(Clubs.of(1, 20, 10), 3, 4, 2, 5);
+        for (int f = 0; f < 3; f++) {
+            club.fetch(0, f);
+        }
+        club.fetch(0, 0);
+        club.fetch(0, 0);
+        club.fetch(0, 1);
+        club.pass(1);
+        club.fetch(0, 3);
+        club.pass(1);
+        club.fetch(0, 3);
+        Check.is("a film of 5 worth 2, where only 2 units are worth less", Seen.told(club), "0,3,4,2;");
+        club.pass(1);
+        club.fetch(0, 3);
+        Check.is("worth 3: those worth 1 and 2 go, the lowest stays", Seen.told(club), "0,3,5;");
     }
 
     private static void tooLargeForTheCache() {

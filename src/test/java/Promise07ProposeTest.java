@@ -9,6 +9,7 @@ public final class Promise07ProposeTest {
         Check.throwsArgument("propose(0, 0, -1)", () -> club.propose(0, 0, -1));
         Check.throwsArgument("propose(0, 0, 10)", () -> club.propose(0, 0, 10));
         Check.throwsIndex("propose(0, 3, 10)", () -> club.propose(0, 3, 10));
+        Check.throwsIndex("propose(3, 0, 10)", () -> club.propose(3, 0, 10));
         club.leave(2);
         Check.throwsState("propose(2, 0, 0)", () -> club.propose(2, 0, 0));
         Check.throwsArgument("propose(2, 0, 10)", () -> club.propose(2, 0, 10));

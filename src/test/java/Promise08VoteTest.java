@@ -50,6 +50,9 @@ public final class Promise08VoteTest {
         club.propose(0, 0, 7);
         Check.is("1 of 4", club.vote(3, 0, false), OPEN);
         Check.is("2 of 4", club.vote(1, 0, false), REFUSED);
+        Bandwidthclub alone = Clubs.of(1, 5, 5);
+        alone.propose(0, 0, 7);
+        Check.is("1 of 1", alone.vote(0, 0, false), REFUSED);
         Bandwidthclub odd = Clubs.of(5, 5, 5);
         odd.propose(0, 0, 7);
         odd.vote(0, 0, false);
