@@ -189,7 +189,7 @@ public final class Bandwidthclub {
         return now;
     }
 
-    /** Tells of a member: 0 whether in the club, 1 line left, 2 cache used, 3 account, 4 fetches. */
+    /** Tells of a member: 0 if in the club, 1 line left, 2 cache used, 3 account, 4 fetches. */
     public int member(int member, int what)
             throws IndexOutOfBoundsException, IllegalArgumentException {
         Member told = memberAt(member);
@@ -624,7 +624,7 @@ public final class Bandwidthclub {
         }
     }
 
-    /** The account of one member, and what it owes each other one; below 0 what that one owes it. */
+    /** The account of one member, and what it owes each other one (below 0: is owed by it). */
     private static final class Book {
         final int owner;
         final int[] balances = new int[MOST_MEMBERS];
