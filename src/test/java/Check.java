@@ -5,8 +5,14 @@ final class Check {
     }
 
     private static int wrong = 0;
+    private static String sentence = "";
 
     private Check() {
+    }
+
+    /** The sentence of the document that the next checks are of; told with each that fails. */
+    static void sentence(String words) {
+        sentence = " (the document: " + words + ")";
     }
 
     static void is(String call, long got, long due) {
@@ -27,6 +33,29 @@ final class Check {
         }
     }
 
+    /** How much of its line each member has left. */
+    static void lines(Bandwidthclub club, int... due) {
+        for (int m = 0; m < due.length; m++) {
+            is("line of " + m, club.member(m, 1), due[m]);
+        }
+    }
+
+    /** The account of each member, as it is kept and as it is found anew. */
+    static void accounts(Bandwidthclub club, int... due) {
+        for (int m = 0; m < due.length; m++) {
+            is("account of " + m, club.member(m, 3), due[m]);
+            is("account of " + m + " anew", club.accountAnew(m), due[m]);
+        }
+    }
+
+    /** One of two owes the other one so much, who owes nothing; as it is kept, and anew. */
+    static void owes(Bandwidthclub club, int member, int other, int units) {
+        is("owes(" + member + ", " + other + ")", club.owes(member, other), units);
+        is("owes(" + other + ", " + member + ")", club.owes(other, member), 0);
+        is("owesAnew(" + member + ", " + other + ")", club.owesAnew(member, other), units);
+        is("owesAnew(" + other + ", " + member + ")", club.owesAnew(other, member), 0);
+    }
+
     static void throwsIndex(String call, Call run) {
         throwsJust(call, run, IndexOutOfBoundsException.class);
     }
@@ -39,9 +68,17 @@ final class Check {
         throwsJust(call, run, IllegalStateException.class);
     }
 
+    static void throwsNothing(String call, Call run) {
+        try {
+            run.run();
+        } catch (RuntimeException e) {
+            fail(call + " threw " + e);
+        }
+    }
+
     static void fail(String text) {
         wrong++;
-        System.out.println(text);
+        System.out.println(text + sentence);
     }
 
     static void end() {

@@ -12,7 +12,9 @@ public final class NothingChangedTest {
         rangesOfWhatIsMade();
         fetching();
         voting();
+        asking();
         limits();
+        askingAloneChangesNothing();
         Check.end();
     }
 
@@ -34,9 +36,14 @@ public final class NothingChangedTest {
 
     private static void rangesOfWhatIsMade() {
         changesNothing("join(0, 5)", club -> club.join(0, 5));
+        changesNothing("join(21, 5)", club -> club.join(21, 5));
+        changesNothing("join(5, -1)", club -> club.join(5, -1));
         changesNothing("join(5, 51)", club -> club.join(5, 51));
+        changesNothing("film(0)", club -> club.film(0));
         changesNothing("film(21)", club -> club.film(21));
+        changesNothing("pass(0)", club -> club.pass(0));
         changesNothing("pass(101)", club -> club.pass(101));
+        changesNothing("leave(-1)", club -> club.leave(-1));
         changesNothing("leave(4)", club -> club.leave(4));
         changesNothing("leave(2)", club -> club.leave(2));
     }
@@ -46,6 +53,7 @@ public final class NothingChangedTest {
         changesNothing("fetch(0, 3)", club -> club.fetch(0, 3));
         changesNothing("fetch(2, 0)", club -> club.fetch(2, 0));
         changesNothing("fetch(0, 2), which is too large", club -> club.fetch(0, 2));
+        changesNothing("fetch(1, 0), where too little is left", club -> club.fetch(1, 0));
     }
 
     private static void voting() {
@@ -56,6 +64,26 @@ public final class NothingChangedTest {
         changesNothing("vote(2, 2, true)", club -> club.vote(2, 2, true));
         changesNothing("vote(3, 0, false) of a passed one", club -> club.vote(3, 0, false));
         changesNothing("vote(3, 1, true) of a refused one", club -> club.vote(3, 1, true));
+    }
+
+    private static void asking() {
+        changesNothing("rule(3)", club -> club.rule(3));
+        changesNothing("proposal(3, 0)", club -> club.proposal(3, 0));
+        changesNothing("proposal(0, 5)", club -> club.proposal(0, 5));
+        changesNothing("member(4, 0)", club -> club.member(4, 0));
+        changesNothing("member(0, 5)", club -> club.member(0, 5));
+        changesNothing("has(0, 3)", club -> club.has(0, 3));
+        changesNothing("owes(0, 4)", club -> club.owes(0, 4));
+        changesNothing("worth(3)", club -> club.worth(3));
+        changesNothing("accountAnew(4)", club -> club.accountAnew(4));
+        changesNothing("owesAnew(4, 0)", club -> club.owesAnew(4, 0));
+        changesNothing("told(-1)", club -> club.told(-1));
+    }
+
+    private static void askingAloneChangesNothing() {
+        Bandwidthclub club = usedClub();
+        String seen = Seen.all(club);
+        Check.is("what is seen the second time", Seen.all(club), seen);
     }
 
     private static void limits() {

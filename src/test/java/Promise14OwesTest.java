@@ -12,27 +12,21 @@ public final class Promise14OwesTest {
         Check.throwsIndex("owes(0, 3)", () -> club.owes(0, 3));
         Check.is("owes(0, 0)", club.owes(0, 0), 0);
         club.fetch(0, 0);
-        owe(club, 0, 1, 4);
-        owe(club, 0, 2, 1);
+        Check.owes(club, 0, 1, 4);
+        Check.owes(club, 0, 2, 1);
         club.pass(1);
         club.fetch(2, 0);
-        owe(club, 2, 1, 4);
-        owe(club, 0, 2, 1);
+        Check.owes(club, 2, 1, 4);
+        Check.owes(club, 0, 2, 1);
         club.pass(1);
         club.fetch(2, 1);
-        owe(club, 2, 1, 8);
-        owe(club, 2, 0, 1);
+        Check.owes(club, 2, 1, 8);
+        Check.owes(club, 2, 0, 1);
         Check.is("owes(2, 2)", club.owes(2, 2), 0);
         club.leave(2);
-        owe(club, 2, 1, 0);
-        owe(club, 2, 0, 0);
-        owe(club, 0, 1, 4);
+        Check.owes(club, 2, 1, 0);
+        Check.owes(club, 2, 0, 0);
+        Check.owes(club, 0, 1, 4);
         Check.end();
-    }
-
-    /** One of two owes the other one, or none does. */
-    private static void owe(Bandwidthclub club, int member, int other, int units) {
-        Check.is("owes(" + member + ", " + other + ")", club.owes(member, other), units);
-        Check.is("owes(" + other + ", " + member + ")", club.owes(other, member), 0);
     }
 }

@@ -12,28 +12,22 @@ public final class Promise17OwesAnewTest {
         Check.throwsIndex("owesAnew(0, 3)", () -> club.owesAnew(0, 3));
         Check.is("owesAnew(1, 1)", club.owesAnew(1, 1), 0);
         club.fetch(0, 0);
-        owe(club, 0, 1, 4);
-        owe(club, 0, 2, 1);
+        Check.owes(club, 0, 1, 4);
+        Check.owes(club, 0, 2, 1);
         club.fetch(0, 0);
-        owe(club, 0, 1, 4);
+        Check.owes(club, 0, 1, 4);
         club.pass(1);
         club.fetch(2, 1);
-        owe(club, 2, 1, 4);
-        owe(club, 2, 0, 1);
+        Check.owes(club, 2, 1, 4);
+        Check.owes(club, 2, 0, 1);
         club.fetch(0, 0);
-        owe(club, 2, 0, 1);
+        Check.owes(club, 2, 0, 1);
         club.leave(1);
-        owe(club, 0, 1, 0);
-        owe(club, 2, 1, 0);
-        owe(club, 2, 0, 1);
+        Check.owes(club, 0, 1, 0);
+        Check.owes(club, 2, 1, 0);
+        Check.owes(club, 2, 0, 1);
         club.leave(2);
-        owe(club, 2, 0, 0);
+        Check.owes(club, 2, 0, 0);
         Check.end();
-    }
-
-    /** One of two owes the other one, or none does. */
-    private static void owe(Bandwidthclub club, int member, int other, int units) {
-        Check.is("owesAnew(" + member + ", " + other + ")", club.owesAnew(member, other), units);
-        Check.is("owesAnew(" + other + ", " + member + ")", club.owesAnew(other, member), 0);
     }
 }

@@ -1,5 +1,9 @@
 /** Everything that can be asked of a club, in one text. */
 final class Seen {
+    // Above all that a club can have, so that the tests end with any club.
+    private static final int MOST_SIGNS = 500;
+    private static final int MOST_NUMBERS = 40;
+
     private Seen() {
     }
 
@@ -39,7 +43,8 @@ final class Seen {
 
     static String told(Bandwidthclub club) {
         StringBuilder text = new StringBuilder();
-        for (char sign = club.told(0); sign != 0; sign = club.told(text.length())) {
+        for (char sign = club.told(0); sign != 0 && text.length() < MOST_SIGNS;
+                sign = club.told(text.length())) {
             text.append(sign);
         }
         return text.toString();
@@ -62,14 +67,13 @@ final class Seen {
     }
 
     private static int count(Asked asked) {
-        int count = 0;
-        while (true) {
+        for (int count = 0; count < MOST_NUMBERS; count++) {
             try {
                 asked.of(count);
             } catch (IndexOutOfBoundsException e) {
                 return count;
             }
-            count++;
         }
+        return MOST_NUMBERS;
     }
 }
